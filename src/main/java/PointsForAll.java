@@ -673,7 +673,7 @@ public final class PointsForAll {
         }
 
         private int here() {
-            return at < length && isWithin(at, 0, TAPE - 1) ? bytes[at] : -1;
+            return at < length && at < TAPE ? bytes[at] : -1;
         }
 
         private void write(int step) {

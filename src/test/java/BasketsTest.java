@@ -252,5 +252,7 @@ final class BasketsTest extends Checks {
         y.sort(1, 0, 0);
         y.tell(0, 33);
         due("one as good as the best", y.judge(), NOT);
+        y.tell(0, 30);
+        due("worth one less than the best", y.judge(), 20);
     }
 }

@@ -151,6 +151,10 @@ final class ChangingTest extends Checks {
         x.mend(0, 0, 9);
         x.mend(1, 0, 0);
         due("none", x.beside(1, 0), 0);
+        PointsForAll y = withWants("10/k");
+        y.thing(2, 0, 0);
+        y.sort(1, 0, 0);
+        due("one head alone", y.beside(0, 0), 15);
     }
 
     private static void loses() {

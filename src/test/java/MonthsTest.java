@@ -4,6 +4,7 @@ final class MonthsTest extends Checks {
         months();
         monthsLend();
         foresight();
+        thoughts();
         cheap();
         wrong();
         wrongOfLikeOnes();
@@ -83,6 +84,77 @@ final class MonthsTest extends Checks {
             z.thing(0, 43, 0);
         }
         due("the greatest: 3 and 3", z.foresight(0), 0);
+        PointsForAll free = withWants("1");
+        free.sort(1, 1, 0);
+        free.thing(0, 0, 0);
+        due("for no points at all", free.foresight(0), 0);
+        free.purse(0, 1, 99);
+        free.mend(0, 2, 86);
+        free.thing(0, 1, 0);
+        // 3 and 1 cost 259, above twice all that a SORT may have.
+        due("dearer than all points", free.foresight(0), 0);
+    }
+
+    private static void thoughts() {
+        test("what is thought of leaves nothing behind");
+        PointsForAll x = withWants("20-k*5+p");
+        for (int i = 0; i < 3; i++) {
+            x.thing(9 + i, 302 + i, 1);
+        }
+        x.sort(3, 2008, 0);
+        x.sort(4, 1510, 10);
+        x.tell(0, 111);
+        x.tell(1, 222);
+        long[] due = answers(x, -1);
+        for (int thought = 0; thought < 5; thought++) {
+            long[] got = answers(x, thought);
+            for (int i = 0; i < due.length; i++) {
+                due("answer " + i + " behind thought " + thought, got[i], due[i]);
+            }
+        }
+    }
+
+    private static long[] answers(PointsForAll x, int thought) {
+        long[] answers = new long[18];
+        for (int i = 0; i < answers.length; i++) {
+            think(x, thought);
+            answers[i] = answer(x, i);
+        }
+        return answers;
+    }
+
+    private static void think(PointsForAll x, int thought) {
+        switch (thought) {
+            case 0: x.fewest(); break;
+            case 1: x.found(7, -1); break;
+            case 2: x.changed(0, 9, 0); break;
+            case 3: x.beside(0, 300); break;
+            case 4: x.free(); break;
+            default: break;
+        }
+    }
+
+    private static long answer(PointsForAll x, int which) {
+        switch (which) {
+            case 0: return x.worth(0, 11);
+            case 1: return x.basket(0, 1);
+            case 2: return x.wanted(0, 1);
+            case 3: return x.led(2, 0);
+            case 4: return x.found(3, 0);
+            case 5: return x.judge();
+            case 6: return x.changed(1, 3, 0);
+            case 7: return x.changed(1, 3, 1);
+            case 8: return x.free();
+            case 9: return x.black(0, 110, 50);
+            case 10: return x.beside(0, 150);
+            case 11: return x.beside(0, 0);
+            case 12: return x.loses(200);
+            case 13: return x.fewest();
+            case 14: return x.least(1);
+            case 15: return x.months(0, 3, 4, 0);
+            case 16: return x.foresight(0);
+            default: return x.wrong(1);
+        }
     }
 
     private static void cheap() {
@@ -149,5 +221,10 @@ final class MonthsTest extends Checks {
         // 997000 / 998 is 998.99.., 998000 / 999 is 998.99..: both 998.
         due("alike when cut", y.wrong(0), 0);
         due("998", y.wrong(1), 998);
+        y.mend(0, 0, 0);
+        y.mend(1, 0, 1);
+        due("one of which there is one", y.wrong(0), 1);
+        y.sort(4, 0, 0);
+        due("by 4 / 1", y.wrong(1), 4000);
     }
 }

@@ -53,9 +53,13 @@ final class ShelvesTest extends Checks {
         due("no place", x.put(0, 0, 1), -13);
         due("60", x.row(0, 4, 60), 1);
         due("the last", x.put(0, 59, 1), 1);
+        due("the first", x.put(0, 0, 1), 1);
         due("behind it", x.put(0, 60, 1), -13);
+        due("the last is there", x.element(0, 59), 1);
+        due("the first is there", x.element(0, 0), 1);
         due("a row anew", x.row(0, 4, 60), 1);
         due("0 again", x.element(0, 59), 0);
+        due("0 again", x.element(0, 0), 0);
     }
 
     private static void put() {

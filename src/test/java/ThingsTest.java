@@ -104,6 +104,8 @@ final class ThingsTest extends Checks {
         }
         PointsForAll x = withShorts(1, 1, 1);
         due("shorter than a four", x.things(2, 0, 1), 0);
+        PointsForAll y = withShorts(0, 0, 0, 0, 999, 99, 99, 99);
+        due("the least and the greatest, up to the row's end", y.things(2, 0, 6), 2);
     }
 
     private static void mend() {

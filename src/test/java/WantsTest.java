@@ -60,14 +60,14 @@ final class WantsTest extends Checks {
         longest.append("0");
         PointsForAll y = new PointsForAll();
         due("the longest", wantText(y, longest.toString()), 0);
-        StringBuilder sum = new StringBuilder("1");
-        while (sum.length() < 119) {
+        StringBuilder sum = new StringBuilder("-1");
+        while (sum.length() < 120) {
             sum.append("+1");
         }
-        due("a long sum", wantText(y, sum.toString()), 1);
+        due("a sum of 120 bytes", wantText(y, sum.toString()), 1);
         y.thing(1, 0, 0);
         y.sort(1, 0, 1);
-        due("what it comes to", y.worth(0, 1), 60);
+        due("what it comes to", y.worth(0, 1), 58);
     }
 
     private static void fault(String text, int place) {
@@ -131,6 +131,9 @@ final class WantsTest extends Checks {
         fault("((((((-1))))))", 6);
         fault("((((((1)))))", 12);
         fault("1+((((((2*(3))))))", 10);
+        due("behind ?", withWants("((((((1))))))?((((((1))))));((((((1))))))").count(2), 1);
+        fault("1?(((((((1)))))))", 8);
+        fault("1;(((((((1)))))))", 8);
         fault("!!!!!!(1)", 6);
     }
 
