@@ -22,6 +22,17 @@ class Checks {
         fine = true;
     }
 
+    /** A test of one sentence: its promise (0: it is said for all), and its words as the document has them. */
+    static void edge(int promise, String sentence) {
+        edge(promise, sentence, "");
+    }
+
+    /** A test of one sentence that has several, each with what it looks at. */
+    static void edge(int promise, String sentence, String what) {
+        test((promise == 0 ? "promises 1 to 40" : "promise " + promise) + ", \"" + sentence + "\"" + (what.isEmpty() ? "" : " - " + what));
+        so("these words stand in the document, once", Document.holds(promise, sentence));
+    }
+
     static void due(String call, long got, long want) {
         if (got != want) {
             fine = false;
@@ -65,6 +76,16 @@ class Checks {
     static int wantText(PointsForAll x, String text) {
         feedText(x, text);
         return x.want();
+    }
+
+    /** One SORT of so many HEADS, with PURSE and BOOK, that wants the text. */
+    static Subject one(String text, int heads, int pb) {
+        return new Subject().wants(text).does("sort(" + heads + ", " + pb + ", 0)");
+    }
+
+    /** The same of one head. */
+    static Subject one(String text, int pb) {
+        return one(text, 1, pb);
     }
 
     /** A new object with WANTS. */
