@@ -90,6 +90,7 @@ final class LanguageTest extends Checks {
             so(one + " is static", one == PointsForAll.class || Modifier.isStatic(one.getModifiers()));
             for (Method method : one.getDeclaredMethods()) {
                 so(method + " takes at most seven", method.getParameterCount() <= 7);
+                so(method + " has no name of the face", one == PointsForAll.class || !(" " + FACE).contains(" " + method.getName() + "("));
             }
         }
     }
